@@ -236,8 +236,16 @@ public final class PromisesTest {
         due("top", x.top(3, false), 0);
         x.attempt(3);
         due("one that fell in", x.key(0), 0);
+        x.hole(40);
+        due("a corner", x.lay(63, 1, 0, 0), 3);
+        due("the other", x.lay(0, 1, 0, 0), 4);
+        due("level at cell 0", x.thing(4, 1), 0);
+        due("key at 63", x.key(3), 1);
+        due("key at 0", x.key(4), 1);
+        due("63 is empty", x.top(63, false), NONE);
+        due("0 is empty", x.top(0, false), NONE);
         due("stays in", x.thing(0, 0), NONE);
-        refused(NO_SUCH, "key(3)", () -> x.key(3));
+        refused(NO_SUCH, "key(5)", () -> x.key(5));
         refused(NO_SUCH, "key(-1)", () -> x.key(-1));
     }
 
@@ -344,6 +352,8 @@ public final class PromisesTest {
         faulty("grip most 1;", false, 1, 10);
         faulty("grip least(1,2,3);", false, 1, 14);
         faulty("grip most(lot,least(2,3));", false, 0, 0);
+        faulty("grip least(1000,1);", false, 2, 11);
+        faulty("grip least(1,1000);", false, 2, 13);
         faulty("grip 1 if;", false, 1, 9);
         faulty("grip 1 if 2;", false, 1, 11);
         faulty("grip 1 if 1<2<3;", false, 1, 13);
@@ -389,6 +399,8 @@ public final class PromisesTest {
 
     private static void laws() {
         faulty("can=1;", true, 0, 0);
+        faulty("1=1;", true, 0, 0);
+        faulty("1000=1;", true, 2, 0);
         faulty(" tries < 5 ; ", true, 0, 0);
         faulty("tries<5", true, 1, 7);
         faulty("tries<5;since<3;", true, 1, 8);
@@ -600,6 +612,7 @@ public final class PromisesTest {
         y.lay(7, 10, 1, 0);
         y.lay(8, 99, 1, 0);
         due("rows do not join", y.attempt(7), 5);
+        corners();
         y.lay(17, 10, 1, 3);
         y.lay(18, 10, 1, 4);
         y.wire(3, true);
@@ -621,6 +634,29 @@ public final class PromisesTest {
         due("at", z.record(0, 2), 10);
         due("first", z.thing(0, 1), 1);
         due("then its neighbour", z.thing(2, 1), 2);
+    }
+
+    /** What lies at the edges is gripped and carried as anywhere else. */
+    private static void corners() {
+        ClawBoxes x = ruled("grip 30;");
+        x.hole(27);
+        int[][] pairs = {{1, 0}, {6, 7}, {8, 0}, {55, 63}, {62, 63}};
+        for (int[] pair : pairs) {
+            int a = x.lay(pair[0], 15, 1, 0);
+            int b = x.lay(pair[1], 16, 1, 0);
+            due("both gripped: weak", x.attempt(pair[0]), 1);
+            due("both gripped: weak", x.attempt(pair[1]), 1);
+            x.key(b);
+            due("alone", x.attempt(pair[0]), 5);
+            due("in", x.thing(a, 0), NONE);
+        }
+        x.lay(63, 15, 0, 0);
+        due("the corner 63", x.attempt(63), 5);
+        ClawBoxes y = ruled("grip 30;slip 10;");
+        y.hole(0);
+        y.lay(59, 18, 0, 0);
+        due("up: let go", y.attempt(59), 3);
+        due("at step 13", y.record(0, 2), 48);
     }
 
     private static void tenths() {
@@ -651,6 +687,16 @@ public final class PromisesTest {
             due("record(1, " + what + ")", x.record(1, what), second[what]);
         }
         refused(NO_SUCH, "record(2, 0)", () -> x.record(2, 0));
+        ClawBoxes y = ruled("grip 20*lot;lots 2-lot;");
+        y.lay(9, 20, 0, 1);
+        y.attempt(1);
+        due("can by some lot", y.record(0, 9), 1);
+        due("a lot of 2", y.record(0, 3), 0);
+        due("one draw", y.count(13), 1103527590);
+        y.force(NONE);
+        y.attempt(1);
+        due("the lot of 1", y.record(1, 3), 0);
+        due("no draw", y.count(13), 1103527590);
         refused(NO_SUCH, "record(-1, 10)", () -> x.record(-1, 10));
         refused(WRONG, "what 10", () -> x.record(0, 10));
         refused(WRONG, "what -1", () -> x.record(0, -1));
@@ -732,6 +778,11 @@ public final class PromisesTest {
         x.set(0, 4);
         due("too far", x.can(true), NONE);
         due("none in force", new ClawBoxes().can(true), NONE);
+        x.lay(0, 1, 0, 0);
+        due("cell 0", x.can(true), 0);
+        ClawBoxes z = ruled("grip 20*lot;lots 2-lot;");
+        z.lay(9, 20, 0, 1);
+        due("as many lots as lot 0 tells", z.can(false), 9);
         ClawBoxes y = ruled("grip 10+lot*10;slip lot*99;lots 2;");
         y.lay(1, 10, 0, 0);
         y.lay(2, 20, 0, 0);
@@ -745,6 +796,7 @@ public final class PromisesTest {
         x.lay(0, 5, 0, 0);
         x.lay(1, 9, 0, 0);
         due("lot 4", x.odds(0, 0, 4), 0);
+        due("lot 0", x.odds(0, 0, 0), 0);
         due("lot 5: four weights come to the corner", x.odds(0, 0, 5), 1 + 2 + 4 + 5);
         due("lot 9", x.odds(0, 0, 9), 1 + 2 + 4 + 5 + 3 + 6);
         due("lot 35", x.odds(0, 10, 35), 1 + 0);
@@ -822,6 +874,12 @@ public final class PromisesTest {
         y.attempt(9);
         due("tries as they were then", y.fitting(), 1 + 2);
         due("none told", new ClawBoxes().fitting(), 0);
+        ClawBoxes z = ruled("grip 20;");
+        text(z, "grip 20*lot;lots 2-lot;", false);
+        text(z, "grip 10*lot;lots 2;", false);
+        z.lay(9, 20, 0, 1);
+        z.attempt(9);
+        due("lots told by lot 0, and none beyond them", z.fitting(), 1 + 2);
     }
 
     private static void strange() {
@@ -844,6 +902,9 @@ public final class PromisesTest {
         x.attempt(9);
         due("0 and 2 are left, 2 is weak for the second", x.guess(62), 1);
         due("empty", x.guess(9), 0);
+        ClawBoxes y = ruled("grip 20-lot;lots 2;");
+        y.lay(9, 20, 0, 0);
+        due("by lot 0", y.guess(9), 1);
         refused(CELL, "guess(64)", () -> x.guess(64));
         refused(CELL, "guess(-1)", () -> x.guess(-1));
     }
@@ -888,6 +949,9 @@ public final class PromisesTest {
         due("and not yet", x.worth(5, 6, 3), -3);
         due("20", x.worth(0, 5, 20), 47);
         due("on a copy", x.count(4) + x.count(7), 0);
+        ClawBoxes y = ruled("grip 20-lot;lots 2;");
+        y.lay(9, 20, 0, 8);
+        due("by lot 0", y.worth(0, 9, 1), 7);
         due("on a copy", x.thing(0, 0), 5);
         refused(WRONG, "k 0", () -> x.worth(0, 0, 0));
         refused(WRONG, "k 21", () -> x.worth(0, 0, 21));
@@ -980,6 +1044,14 @@ public final class PromisesTest {
         due("the hour then", x.broken(2), 1);
         x.force(NONE);
         due("can by the program then, and now", x.broken(1), 2);
+        ClawBoxes y = ruled("grip 20*lot;lots 2;");
+        text(y, "tries>1;", true);
+        text(y, "can=1;", true);
+        y.lay(9, 20, 0, 1);
+        due("can by some lot, now", y.broken(1), NONE);
+        y.attempt(1);
+        due("the first try", y.broken(0), 0);
+        due("can by some lot, then", y.broken(1), NONE);
         refused(NO_SUCH, "3", () -> x.broken(3));
         refused(NO_SUCH, "-1", () -> x.broken(-1));
     }
@@ -1097,12 +1169,15 @@ public final class PromisesTest {
         x.force(1);
         x.image();
         x.refill();
+        x.attempt(5);
         due("1 left", x.restore(), 1);
+        due("the first try of the second", x.record(0, 0), 3);
         due("things of the second", x.count(0), 3);
         due("taken", x.thing(0, 0), -2);
         due("tries", x.count(4), 2);
         due("record", x.record(1, 0), 9);
         due("0 left", x.restore(), 0);
+        due("first try", x.record(0, 0), 3);
         due("things told since are gone", x.count(0), 2);
         due("place", x.thing(0, 0), 9);
         due("level", x.thing(1, 1), 1);
