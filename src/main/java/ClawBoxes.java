@@ -923,7 +923,9 @@ public final class ClawBoxes {
         int hour = 0;
         int possible = 0;
         int hole = 0;
-        int level = 0;
+        int rising = 0;
+        int across = 0;
+        int last = 0;
         int weight = 0;
         final int[] gripped = new int[5];
         int grippedCount = 0;
@@ -954,7 +956,7 @@ public final class ClawBoxes {
                 return;
             }
             outcome = GRIPPED;
-            level = box.heaps.levelOf(first);
+            measure(box.heaps.levelOf(first));
             take(box.heaps, first);
             int lock = box.heaps.locks[first];
             for (int side = 0; lock != 0 && side < 4; side++) {
@@ -994,21 +996,15 @@ public final class ClawBoxes {
             return outcomeAt(step) == outcome && letGoAt(step) == letGo;
         }
 
-        int risingSteps() {
-            return Math.max(0, RAISED_LEVEL - level);
-        }
-
-        int sideways() {
-            return Math.abs(hole % SIDE - cell % SIDE);
-        }
-
-        int lastStep() {
-            return risingSteps() + sideways() + Math.abs(hole / SIDE - cell / SIDE);
+        /** The way is measured once, as each lot and each program steps it anew. */
+        void measure(int level) {
+            rising = Math.max(0, RAISED_LEVEL - level);
+            across = Math.abs(hole % SIDE - cell % SIDE);
+            last = rising + across + Math.abs(hole / SIDE - cell / SIDE);
         }
 
         /** The first step with too little force; the last step pays in any case. */
         int failingStep(int grip, int slip) {
-            int last = lastStep();
             for (int k = 0; k < last; k++) {
                 if (grip - slip * k / 10 < weight) {
                     return k;
@@ -1021,21 +1017,21 @@ public final class ClawBoxes {
             if (outcome == MISSED || outcome == WIRED) {
                 return outcome;
             }
-            if (step >= lastStep()) {
+            if (step >= last) {
                 return PAID;
             }
             if (step == 0) {
                 return WEAK;
             }
-            return step <= risingSteps() ? SLIPPED : LET_GO;
+            return step <= rising ? SLIPPED : LET_GO;
         }
 
         int letGoAt(int step) {
             if (outcomeAt(step) != LET_GO) {
                 return NONE;
             }
-            int gone = step - risingSteps();
-            int goneX = Math.min(gone, sideways());
+            int gone = step - rising;
+            int goneX = Math.min(gone, across);
             int x = cell % SIDE + Integer.signum(hole % SIDE - cell % SIDE) * goneX;
             int y = cell / SIDE + Integer.signum(hole / SIDE - cell / SIDE) * (gone - goneX);
             return SIDE * y + x;

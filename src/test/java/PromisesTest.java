@@ -1,164 +1,83 @@
-import java.util.NoSuchElementException;
-
 /** One test or more for each promise of the document: ordinary inputs, edges, wrong inputs. */
-public final class PromisesTest {
-    private static final int NONE = ClawBoxes.NONE;
-    private static final int VOID = Integer.MIN_VALUE;
-    private static final Class<?> CELL = IndexOutOfBoundsException.class;
-    private static final Class<?> WRONG = IllegalArgumentException.class;
-    private static final Class<?> NO_SUCH = NoSuchElementException.class;
-
-    private static int promise = 0;
-    private static int wrong = 0;
-
-    private interface Call {
-        void make();
-    }
-
-    private static void due(String what, long got, long want) {
-        if (got != want) {
-            wrong++;
-            System.out.println("promise " + promise + ": " + what + " answered " + got + ", due is " + want);
-        }
-    }
-
-    private static void refused(Class<?> kind, String what, Call call) {
-        String got = "nothing";
-        try {
-            call.make();
-        } catch (RuntimeException e) {
-            got = e.getClass() == kind ? "" : e.getClass().getName();
-        }
-        if (!got.isEmpty()) {
-            wrong++;
-            System.out.println("promise " + promise + ": " + what + " threw " + got + ", due is " + kind.getName());
-        }
-    }
-
-    private static int word(String s, int from) {
-        int v = 0;
-        for (int i = from; i < from + 4; i++) {
-            v = v << 8 | (i < s.length() ? s.charAt(i) : 0);
-        }
-        return v;
-    }
-
-    private static void tape(ClawBoxes x, String s) {
-        for (int i = 0; i < s.length(); i += 20) {
-            x.feed(word(s, i), word(s, i + 4), word(s, i + 8), word(s, i + 12), word(s, i + 16));
-        }
-    }
-
-    private static int text(ClawBoxes x, String s, boolean law) {
-        tape(x, s);
-        return x.program(s.length(), law);
-    }
-
-    /** A box that a program steers from the start. */
-    private static ClawBoxes ruled(String s) {
-        ClawBoxes x = new ClawBoxes();
-        text(x, s, false);
-        x.force(0);
-        return x;
-    }
-
-    private static void faulty(String s, boolean law, int kind, int place) {
-        ClawBoxes x = new ClawBoxes();
-        due((law ? "law '" : "program '") + s + "'", text(x, s, law), kind == 0 ? 0 : kind - 10);
-        due("place of '" + s + "'", x.fault(), kind == 0 ? NONE : place);
-        due("tape behind '" + s + "'", x.count(12), 0);
-    }
-
-    /** What an E is worth for the first try of a new object, held within 0 and 999. */
-    private static void grips(String e, int want) {
-        due("grip " + e, ruled("grip " + e + ";").tells(0, 0), want);
-    }
-
-    private static void holds(String c, boolean want) {
-        due(c, ruled("grip 7 if " + c + ";").tells(0, 0), want ? 7 : 0);
-    }
-
+public final class PromisesTest extends Checks {
     public static void main(String[] args) {
-        promise = 1;
+        about("promise 1");
         newObject();
-        promise = 2;
+        about("promise 2");
         lay();
-        promise = 3;
+        about("promise 3");
         wire();
-        promise = 4;
+        about("promise 4");
         key();
-        promise = 5;
+        about("promise 5");
         thing();
-        promise = 6;
+        about("promise 6");
         top();
-        promise = 7;
+        about("promise 7");
         hole();
-        promise = 8;
+        about("promise 8");
         set();
-        promise = 9;
+        about("promise 9");
         seed();
-        promise = 10;
+        about("promise 10");
         feed();
-        promise = 11;
+        about("promise 11");
         program();
         values();
-        promise = 12;
+        about("promise 12");
         fault();
-        promise = 13;
+        about("promise 13");
         force();
-        promise = 14;
+        about("promise 14");
         tells();
-        promise = 15;
+        about("promise 15");
         attempt();
         steps();
-        promise = 16;
+        about("promise 16");
         record();
-        promise = 17;
+        about("promise 17");
         hand();
-        promise = 18;
+        about("promise 18");
         play();
-        promise = 19;
+        about("promise 19");
         can();
-        promise = 20;
+        about("promise 20");
         odds();
-        promise = 21;
+        about("promise 21");
         weights();
-        promise = 22;
+        about("promise 22");
         when();
-        promise = 23;
+        about("promise 23");
         fitting();
-        promise = 24;
+        about("promise 24");
         strange();
-        promise = 25;
+        about("promise 25");
         guess();
-        promise = 26;
+        about("promise 26");
         refill();
-        promise = 27;
+        about("promise 27");
         worth();
-        promise = 28;
+        about("promise 28");
         bide();
-        promise = 29;
+        about("promise 29");
         settle();
-        promise = 30;
+        about("promise 30");
         back();
-        promise = 31;
+        about("promise 31");
         broken();
-        promise = 32;
+        about("promise 32");
         cut();
-        promise = 33;
+        about("promise 33");
         player();
-        promise = 34;
+        about("promise 34");
         fair();
-        promise = 35;
+        about("promise 35");
         image();
-        promise = 36;
+        about("promise 36");
         restore();
-        promise = 37;
+        about("promise 37");
         count();
-        System.out.println(wrong == 0 ? "all promises are kept" : wrong + " answers are not as due");
-        if (wrong != 0) {
-            System.exit(1);
-        }
+        end();
     }
 
     private static void newObject() {
