@@ -32,6 +32,8 @@ public final class TextsTest extends Checks {
         laws();
         about("a text of up to 300 bytes");
         longTexts();
+        about("a text knows nothing of the one ahead of it");
+        oneBehindAnother();
         about("VALUES of E are whole numbers of 32 bits that wrap; / cuts, by 0 it is 0");
         values();
         about("of each word the VALUE of the last CLAUSE of it whose C holds (or that has none), 0 without");
@@ -361,6 +363,26 @@ public final class TextsTest extends Checks {
         due("many or", ruled(right).tells(0, 0), 1);
     }
 
+    private static void oneBehindAnother() {
+        ClawBoxes x = new ClawBoxes();
+        due("six open as it ends", text(x, "grip ((((((1", false), -9);
+        due("six may be open again", text(x, "grip ((((((12))))));", false), 0);
+        due("a FAULT in the 12th CLAUSE", text(x, "grip 1;".repeat(11) + "grip x;", false), -9);
+        due("12 CLAUSES", text(x, "grip 1;".repeat(11) + "slip 34;", false), 1);
+        due("a LAW", text(x, "not not can=1;", true), 0);
+        due("no can in a PROGRAM", text(x, "grip can;", false), -9);
+        due("no LAW", text(x, "[[[[[[[can=1;", true), -7);
+        due("a PROGRAM", text(x, "grip 5 if [[[[[[1=1]]]]]];", false), 2);
+        x.force(0);
+        due("grip of the first", x.tells(0, 0), 12);
+        due("slip of the first", x.tells(1, 0), 0);
+        x.force(1);
+        due("grip of the second", x.tells(0, 0), 1);
+        due("slip of the second", x.tells(1, 0), 34);
+        x.force(2);
+        due("grip of the third", x.tells(0, 0), 5);
+    }
+
     private static void values() {
         grips("7/2", 3);
         grips("(0-7)/2+10", 7);
@@ -398,6 +420,13 @@ public final class TextsTest extends Checks {
         holds("1=2 or 1=2 or 1=1", true);
         holds("1=1 and 1=1 and 1=2", false);
         holds("1=2 and 1=2 or 1=1", true);
+        holds("2>1 and 1=1", true);
+        holds("1=1 and 2>1", true);
+        holds("1<2 and 2>1", true);
+        holds("1<2 and 1=1", true);
+        holds("not 1=2 and 1=1", true);
+        holds("not 1=2 and 2>1", true);
+        holds("[1=1 or 1=2] and not 2>3", true);
         holds("not 1=1 or 1=1", true);
         holds("not [1=1 or 1=1]", false);
     }

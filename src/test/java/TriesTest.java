@@ -38,6 +38,8 @@ public final class TriesTest extends Checks {
         draws();
         about("The LOT of a TRY: a DRAW of lots (none, if lots is 1: it is 0 then)");
         oneLot();
+        about("A LOT is 0 to lots less 1: what is told by it is what the CLAW has");
+        forceByLot();
         about("Beyond the box: the nearest CELL of it");
         beyondTheBox();
         about("a DRAW of all its weights together (weight by weight as they are told), then the TRY");
@@ -512,6 +514,23 @@ public final class TriesTest extends Checks {
         due("the first of 1", z.count(13), 1);
         z.attempt(0);
         due("the second of 2", z.count(13), drawn(1));
+    }
+
+    private static void forceByLot() {
+        ClawBoxes x = ruled("grip 20 if lot=hour;slip 10*lot;lots 3;");
+        int paid = 0;
+        for (int i = 0; i < 60; i++) {
+            x.refill();
+            x.set(2, i % 3);
+            if (x.count(0) == 0) {
+                x.lay(62, 11, 0, 1);
+            }
+            int lot = bits(drawn(x.count(13))) % 3;
+            int outcome = lot != i % 3 ? 1 : lot == 2 ? 2 : 5;
+            due("by LOT " + lot + ", in hour " + i % 3, x.attempt(62), outcome);
+            paid += outcome == 5 ? 1 : 0;
+        }
+        due("some were PAID: 1", paid > 0 ? 1 : 0, 1);
     }
 
     private static void beyondTheBox() {

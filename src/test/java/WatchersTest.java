@@ -9,6 +9,7 @@ public final class WatchersTest extends Checks {
         when();
         about("FITTING PROGRAMS, as bits");
         fitting();
+        fittingByLots();
         about("STRANGE: the first TRY that could not; NONE: it is FITTING");
         strange();
         about("By how many FITTING PROGRAMS the next TRY at a CELL would be PAID (by LOT 0)");
@@ -76,6 +77,10 @@ public final class WatchersTest extends Checks {
         z.force(5);
         due("LOT 0 is all if lots is 1", z.can(true), 9);
         due("no TRY, no DRAW", z.count(4) + z.count(13), 1);
+        ClawBoxes w = ruled("grip 10 if lot=2;lots 3 if lot=0;");
+        w.lay(9, 10, 0, 0);
+        due("lots worked with lot 0", w.can(false), 9);
+        due("by one of three", w.can(true), NONE);
     }
 
     private static void odds() {
@@ -92,6 +97,12 @@ public final class WatchersTest extends Checks {
         due("aims at the HOLE", x.odds(1, 63, 1), 7 + 7 + 7);
         due("weights 1 to 9 of the lower right corner", x.odds(0, 63, 1), 1 + 4 + 7);
         due("LOT 0", x.odds(1, 63, 0), 0);
+        ClawBoxes y = ruled("grip 9 if tries=2;");
+        y.hand(0_000010000);
+        y.lay(9, 9, 0, 0);
+        due("not now", y.odds(0, 9, 0), 0);
+        y.attempt(0);
+        due("now", y.odds(0, 9, 0), 1);
         refused(WRONG, "LOT 36", () -> x.odds(0, 0, 36));
         refused(WRONG, "LOT -1", () -> x.odds(0, 0, -1));
         due("no TRY, no DRAW", x.count(4) + x.count(13), 1);
@@ -116,6 +127,8 @@ public final class WatchersTest extends Checks {
         due("one nearer", x.when(5, 4), 60);
         due("one nearer", x.when(5, 1), 59);
         due("one nearer", x.when(5, 2), 60);
+        text(x, "grip 9 if lot=0;lots 9;", false);
+        due("LOT 0 itself", x.when(5, 5), 1);
         x.set(1, 0);
         due("no coin more", x.when(5, 3), NONE);
         due("no THING", x.when(6, 0), NONE);
@@ -164,6 +177,21 @@ public final class WatchersTest extends Checks {
         z.refill();
         due("slipped", z.attempt(9), 2);
         due("the STEP as it rises is free", z.fitting(), 1 + 2);
+    }
+
+    private static void fittingByLots() {
+        ClawBoxes x = ruled("grip 20;");
+        text(x, "grip 20 if lot<0;lots 36;", false);
+        text(x, "grip 20 if lot=0;lots 36;", false);
+        text(x, "grip 20 if lot=4;lots 5 if lot=0;", false);
+        text(x, "grip 20 if lot=5;lots 5;", false);
+        text(x, "grip 20 if lot=35;lots 36;", false);
+        x.lay(9, 20, 0, 1);
+        x.attempt(9);
+        due("by LOTS 0 to lots less 1 alone", x.fitting(), 1 + 4 + 8 + 32);
+        due("by LOT 0", x.guess(9), 0);
+        x.lay(9, 20, 0, 1);
+        due("of these by LOT 0", x.guess(9), 2);
     }
 
     private static void strange() {
@@ -238,9 +266,11 @@ public final class WatchersTest extends Checks {
         due("the upper one sank", x.thing(2, 1), 0);
         due("its LEVEL is no other CELL", x.refill(), 1);
         due("back", x.thing(2, 1), 1);
-        x.attempt(0);
         x.attempt(1);
+        x.attempt(0);
+        x.attempt(0);
         x.seed(5);
+        due("since, ahead of it", x.count(5), 3);
         x.refill();
         int[] left = {4, 4, 0, 0, 0, 1, 0, 0, 1, 0, 0, 0, 0, 5};
         for (int what = 0; what < left.length; what++) {
@@ -273,6 +303,10 @@ public final class WatchersTest extends Checks {
         refused(WRONG, "k 21", () -> x.worth(0, 1, 21));
         due("on a copy", x.count(4), 0);
         due("on a copy", x.count(1), 3);
+        ClawBoxes v = ruled("grip 9 if lot=0;lots 9;");
+        v.lay(1, 9, 0, 50);
+        due("by LOT 0", v.worth(0, 1, 2), 49);
+        due("no DRAW", v.count(13), 1);
         ClawBoxes y = new ClawBoxes();
         y.lay(1, 1, 0, 50);
         due("no PROGRAM in force", y.worth(1, 1, 1), -1);
