@@ -1427,7 +1427,7 @@ public final class ClawBoxes {
             return passed(';') || fail(UNFIT);
         }
 
-        boolean condition() {
+        private boolean condition() {
             boolean either = false;
             boolean both = false;
             for (int i = 0; i <= MOST_BYTES; i++) {
@@ -1451,7 +1451,7 @@ public final class ClawBoxes {
             return fail(UNFIT);
         }
 
-        boolean claim() {
+        private boolean claim() {
             if (here() == WORD_NOT) {
                 return denial();
             }
@@ -1473,7 +1473,7 @@ public final class ClawBoxes {
             return true;
         }
 
-        boolean denial() {
+        private boolean denial() {
             if (!opened(WORD_NOT) || !claim()) {
                 return false;
             }
@@ -1495,7 +1495,7 @@ public final class ClawBoxes {
             }
         }
 
-        boolean sum() {
+        private boolean sum() {
             int adding = NONE;
             int scaling = NONE;
             for (int i = 0; i <= MOST_BYTES; i++) {
@@ -1519,7 +1519,7 @@ public final class ClawBoxes {
             return fail(UNFIT);
         }
 
-        boolean unit() {
+        private boolean unit() {
             int kind = here();
             if (kind == NUMBER) {
                 return number();
@@ -1548,7 +1548,7 @@ public final class ClawBoxes {
             return true;
         }
 
-        boolean choice(int part) {
+        private boolean choice(int part) {
             at++;
             if (!opened('(') || !sum()) {
                 return false;

@@ -9,10 +9,13 @@ import java.util.NoSuchElementException;
 import java.util.Random;
 import java.util.TreeSet;
 
-/** Long runs of calls, each answer compared with the answer of a plain model that copies whole boxes. */
+/**
+ * Runs of as many calls as the document promises for an object, each answer compared with the answer of a plain
+ * model that copies whole boxes.
+ */
 public final class StormTest {
-    private static final int RUNS = 300;
-    private static final int CALLS = 400;
+    private static final int RUNS = 1500;
+    private static final int CALLS = 512;
     private static final int NONE = -1;
 
     public static void main(String[] args) throws Exception {
@@ -55,6 +58,10 @@ public final class StormTest {
         final StringBuilder log = new StringBuilder();
         final boolean tame;
         final boolean few;
+        final int tries;
+        final int looks;
+        int calls = 0;
+        boolean good = true;
 
         Storm(int run, List<Method> face) {
             this.run = run;
@@ -62,32 +69,38 @@ public final class StormTest {
             this.random = new Random(run);
             this.tame = run % 3 != 0;
             this.few = run % 2 == 0;
+            boolean fills = run % 5 == 0;
+            this.tries = fills ? 80 : 24;
+            this.looks = fills ? 60 : 6;
         }
 
         boolean blows() throws Exception {
-            int tries = random.nextInt(CALLS);
-            boolean good = true;
             for (int i = 0; good && i < 8; i++) {
-                good = both("lay", arguments("lay"));
-                good = good && tellText();
+                both("lay", arguments("lay"));
+                tellText();
             }
-            for (int i = 0; good && i < CALLS; i++) {
+            both("hand", arguments("hand"));
+            both("force", arguments("force"));
+            while (good && calls < CALLS) {
                 int dice = random.nextInt(100);
                 if (dice < 6) {
-                    good = tellText();
-                } else if (dice < 30 && tries > 0) {
-                    tries--;
+                    tellText();
+                } else if (dice < 6 + tries) {
                     String name = random.nextInt(3) == 0 ? "play" : "attempt";
-                    good = both(name, arguments(name)) && lookAtAll();
+                    both(name, arguments(name));
+                    if (random.nextInt(looks) == 0) {
+                        lookAtAll();
+                        both("force", arguments("force"));
+                    }
                 } else {
                     String name = face.get(random.nextInt(face.size())).getName();
                     if (rare(name) && random.nextInt(4) != 0) {
                         name = "lay";
                     }
-                    good = both(name, arguments(name));
+                    both(name, arguments(name));
                 }
             }
-            return good && lookAtAll();
+            return good;
         }
 
         boolean rare(String name) {
@@ -95,26 +108,24 @@ public final class StormTest {
                     || name.equals("set") && random.nextInt(2) == 0;
         }
 
-        boolean lookAtAll() throws Exception {
-            boolean good = true;
-            for (int what = 0; good && what <= 14; what++) {
-                good = both("count", new Object[] {what});
+        void lookAtAll() throws Exception {
+            for (int what = 0; what <= 14; what++) {
+                both("count", new Object[] {what});
             }
-            for (int t = 0; good && t < model.now.things.size(); t++) {
-                good = both("thing", new Object[] {t, 0}) && both("thing", new Object[] {t, 1});
+            for (int t = 0; t < model.now.things.size(); t++) {
+                both("thing", new Object[] {t, 0});
+                both("thing", new Object[] {t, 1});
             }
             int last = model.now.record.size() - 1;
-            for (int what = 0; good && last >= 0 && what < 10; what++) {
-                good = both("record", new Object[] {last, what});
+            for (int what = 0; last >= 0 && what < 10; what++) {
+                both("record", new Object[] {last, what});
             }
-            return good;
         }
 
-        boolean tellText() throws Exception {
+        void tellText() throws Exception {
             boolean law = random.nextInt(4) == 0;
             String text = new Texts(random, law).text();
-            boolean good = true;
-            for (int i = 0; good && i < text.length(); i += 20) {
+            for (int i = 0; i < text.length(); i += 20) {
                 Object[] five = new Object[5];
                 for (int w = 0; w < 5; w++) {
                     int v = 0;
@@ -124,10 +135,11 @@ public final class StormTest {
                     }
                     five[w] = v;
                 }
-                good = both("feed", five);
+                both("feed", five);
             }
             int n = random.nextInt(20) == 0 ? random.nextInt(text.length() + 2) : text.length();
-            return good && both("program", new Object[] {n, law}) && both("fault", new Object[0]);
+            both("program", new Object[] {n, law});
+            both("fault", new Object[0]);
         }
 
         int between(int least, int most) {
@@ -231,15 +243,19 @@ public final class StormTest {
             }
         }
 
-        boolean both(String name, Object[] arguments) throws Exception {
+        /** Makes the call on both, as long as the object may be called and no answer was wrong. */
+        void both(String name, Object[] arguments) throws Exception {
+            if (!good || calls >= CALLS) {
+                return;
+            }
+            calls++;
             Object got = answer(made, name, arguments);
             Object want = answer(model, name, arguments);
             log.append(name).append(Arrays.toString(arguments)).append(" -> ").append(got).append('\n');
-            if (got.equals(want)) {
-                return true;
+            if (!got.equals(want)) {
+                System.out.println("run " + run + ", a new object:\n" + log + "due is " + want);
+                good = false;
             }
-            System.out.println("run " + run + ", a new object:\n" + log + "due is " + want);
-            return false;
         }
 
         Object answer(Object on, String name, Object[] arguments) throws Exception {
